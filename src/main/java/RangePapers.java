@@ -565,15 +565,13 @@ public final class RangePapers {
             return row;
         }
 
+        /** Makes room for a row; what stands in it is left to the caller to put. */
         void openAt(int row) {
             if (row < 0 || row > count || count >= limit) {
                 return;
             }
             System.arraycopy(cells, row * width, cells, (row + 1) * width, (count - row) * width);
             count++;
-            for (int column = 0; column < width; column++) {
-                cells[row * width + column] = 0;
-            }
         }
 
         void closeAt(int row) {
@@ -616,7 +614,6 @@ public final class RangePapers {
             papers.addRange(0, 0, NONE, NONE, 0);
             grants.count = 0;
             routes.count = 0;
-            next = 0;
             firstFault = NONE;
             if (letterAt(0) != 'P') {
                 return 0;

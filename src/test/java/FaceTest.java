@@ -35,6 +35,7 @@ public final class FaceTest {
         String code = code();
         words(code);
         methodSizes(code);
+        room(code);
         System.out.println(wrong == 0 ? "the face is as due" : wrong + " things are not as due");
         if (wrong != 0) {
             System.exit(1);
@@ -138,5 +139,14 @@ public final class FaceTest {
             check(lines <= 60, "a method has sixty lines at most: " + matcher.group().split("\n")[0]);
         }
         check(methods > METHODS.length, "the methods are found");
+    }
+
+    /** No call makes an object: all are made with the fields of the class and of those inside it. */
+    private static void room(String code) {
+        for (String line : code.split("\n")) {
+            boolean makes = Pattern.compile("\\bnew\\b").matcher(line).find();
+            check(!makes || line.matches(" +(private )?final .* = new .*|.* this\\.cells = new .*"),
+                    "made with the object: " + line.trim());
+        }
     }
 }

@@ -1,3 +1,4 @@
+import java.lang.reflect.Method;
 import java.util.ArrayList;
 import java.util.List;
 import java.util.Random;
@@ -49,10 +50,27 @@ public final class OracleTest {
         while (left > 0 && !wrong) {
             if (random.nextInt(100) == 0 || left == CALLS && random.nextInt(10) != 0) {
                 tellTree();
+            } else if (random.nextInt(60) == 0) {
+                undoAll();
             } else {
                 String name = draw();
                 call(name, arguments(name));
             }
+        }
+    }
+
+    /** As many acts as can be undone and some more, looked at when all are. */
+    private void undoAll() {
+        for (int i = random.nextInt(16); i < 15; i++) {
+            String[] acts = {"announce", "withdraw", "allow", "tear", "revoke", "night", "setAside"};
+            String name = acts[random.nextInt(acts.length)];
+            call(name, arguments(name));
+        }
+        for (int i = 0; i < 15; i++) {
+            call("undo", new long[0]);
+        }
+        for (int what = 1; what < 11; what++) {
+            call("about", new long[] {what});
         }
     }
 
@@ -214,8 +232,8 @@ public final class OracleTest {
             return;
         }
         left--;
-        long got = ofProgram(name, a);
-        long want = ofOracle(name, a);
+        long got = answer(x, name, a);
+        long want = answer(oracle, name, a);
         StringBuilder line = new StringBuilder(name).append('(');
         for (int i = 0; i < a.length; i++) {
             line.append(i == 0 ? "" : ", ").append(a[i]);
@@ -227,75 +245,31 @@ public final class OracleTest {
         }
     }
 
-    private long ofProgram(String name, long[] a) {
-        switch (name) {
-            case "write": return x.write((int) a[0]);
-            case "wipe": return x.wipe();
-            case "fault": return x.fault();
-            case "tree": return x.tree();
-            case "about": return x.about((int) a[0]);
-            case "paper": return x.paper((int) a[0], (int) a[1]);
-            case "grant": return x.grant((int) a[0], (int) a[1]);
-            case "route": return x.route((int) a[0], (int) a[1]);
-            case "announce": return x.announce((int) a[0], (int) a[1], (int) a[2]);
-            case "withdraw": return x.withdraw((int) a[0]);
-            case "allow": return x.allow((int) a[0], (int) a[1], (int) a[2], (int) a[3], (int) a[4]);
-            case "tear": return x.tear((int) a[0]);
-            case "revoke": return x.revoke((int) a[0]);
-            case "night": return x.night();
-            case "setAside": return x.setAside((int) a[0]);
-            case "undo": return x.undo();
-            case "state": return x.state((int) a[0], (int) a[1], (int) a[2]);
-            case "goes": return x.goes((int) a[0], (int) a[1]);
-            case "theft": return x.theft((int) a[0], (int) a[1], (int) a[2]);
-            case "lost": return x.lost((int) a[0]);
-            case "judge": return x.judge((int) a[0], a[1]);
-            case "see": return x.see((int) a[0], (int) a[1], (int) a[2], (int) a[3]);
-            case "unsee": return x.unsee();
-            case "which": return x.which((int) a[0]);
-            case "share": return x.share((int) a[0], a[1] == 1);
-            case "chance": return x.chance((int) a[0], (int) a[1], a[2] == 1);
-            case "seed": return x.seed(a[0]);
-            case "drawn": return x.drawn((int) a[0]);
-            case "keep": return x.keep((int) a[0]);
-            case "again": return x.again((int) a[0]);
-            default: throw new IllegalStateException(name);
+    /** The call by its name, so that both are asked in one way. */
+    private static long answer(Object asked, String name, long[] a) {
+        for (Method method : asked.getClass().getDeclaredMethods()) {
+            if (method.getName().equals(name) && method.getParameterCount() == a.length) {
+                try {
+                    return ((Number) method.invoke(asked, boxed(method.getParameterTypes(), a))).longValue();
+                } catch (ReflectiveOperationException e) {
+                    throw new IllegalStateException(name, e);
+                }
+            }
         }
+        throw new IllegalStateException(name);
     }
 
-    private long ofOracle(String name, long[] a) {
-        switch (name) {
-            case "write": return oracle.write((int) a[0]);
-            case "wipe": return oracle.wipe();
-            case "fault": return oracle.fault();
-            case "tree": return oracle.tree();
-            case "about": return oracle.about((int) a[0]);
-            case "paper": return oracle.paper((int) a[0], (int) a[1]);
-            case "grant": return oracle.grant((int) a[0], (int) a[1]);
-            case "route": return oracle.route((int) a[0], (int) a[1]);
-            case "announce": return oracle.announce((int) a[0], (int) a[1], (int) a[2]);
-            case "withdraw": return oracle.withdraw((int) a[0]);
-            case "allow": return oracle.allow((int) a[0], (int) a[1], (int) a[2], (int) a[3], (int) a[4]);
-            case "tear": return oracle.tear((int) a[0]);
-            case "revoke": return oracle.revoke((int) a[0]);
-            case "night": return oracle.night();
-            case "setAside": return oracle.setAside((int) a[0]);
-            case "undo": return oracle.undo();
-            case "state": return oracle.state((int) a[0], (int) a[1], (int) a[2]);
-            case "goes": return oracle.goes((int) a[0], (int) a[1]);
-            case "theft": return oracle.theft((int) a[0], (int) a[1], (int) a[2]);
-            case "lost": return oracle.lost((int) a[0]);
-            case "judge": return oracle.judge((int) a[0], a[1]);
-            case "see": return oracle.see((int) a[0], (int) a[1], (int) a[2], (int) a[3]);
-            case "unsee": return oracle.unsee();
-            case "which": return oracle.which((int) a[0]);
-            case "share": return oracle.share((int) a[0], a[1] == 1);
-            case "chance": return oracle.chance((int) a[0], (int) a[1], a[2] == 1);
-            case "seed": return oracle.seed(a[0]);
-            case "drawn": return oracle.drawn((int) a[0]);
-            case "keep": return oracle.keep((int) a[0]);
-            case "again": return oracle.again((int) a[0]);
-            default: throw new IllegalStateException(name);
+    private static Object[] boxed(Class<?>[] types, long[] a) {
+        Object[] all = new Object[a.length];
+        for (int i = 0; i < a.length; i++) {
+            if (types[i] == boolean.class) {
+                all[i] = a[i] == 1;
+            } else if (types[i] == long.class) {
+                all[i] = a[i];
+            } else {
+                all[i] = (int) a[i];
+            }
         }
+        return all;
     }
 }

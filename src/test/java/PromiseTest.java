@@ -208,9 +208,15 @@ public final class PromiseTest {
         due.is("tree() once more", x.tree(), 2);
         due.is("about(4)", x.about(4), 0);
         x.wipe();
+        Due.write(x, "Pr0000");
+        due.is("tree() of a route", x.tree(), 1);
+        due.is("tree() once more", x.tree(), 1);
+        due.is("about(2)", x.about(2), 1);
+        x.wipe();
         x.write('P');
         due.is("tree() of P", x.tree(), 1);
         due.is("about(1)", x.about(1), 0);
+        due.is("about(2)", x.about(2), 0);
     }
 
     private static void about() {
@@ -266,6 +272,8 @@ public final class PromiseTest {
         due.is("paper(1, 4) behind it", x.paper(1, 4), 0);
         due.is("paper(2, 4) with its parent", x.paper(2, 4), 0);
         due.is("paper(0, 4) lasts for good", x.paper(0, 4), 1);
+        RangePapers y = told("Pp01629p10029p11639p11619");
+        due.is("about(5): not within, within, wider", y.about(5), 0b01011);
     }
 
     private static void grant() {
@@ -494,6 +502,28 @@ public final class PromiseTest {
         }
         due.is("undo(): the first six are forgotten", x.undo(), LATE);
         due.is("about(6)", x.about(6), 0b111111);
+        RangePapers y = new RangePapers();
+        for (int i = 0; i < 15; i++) {
+            due.is("about(10)", y.about(10), Math.min(i, 14));
+            act15(y, i);
+        }
+        due.is("about(10)", y.about(10), 14);
+        for (int i = 13; i >= 0; i--) {
+            due.is("undo()", y.undo(), i);
+        }
+        due.is("about(6): the first of 15 stays", y.about(6), 0b100000);
+        due.is("about(3): the second is undone", y.about(3), 0);
+    }
+
+    /** Fifteen acts, the first two of which no other is like. */
+    private static void act15(RangePapers x, int i) {
+        if (i == 0) {
+            x.setAside(5);
+        } else if (i == 1) {
+            x.night();
+        } else {
+            x.setAside(i % 3);
+        }
     }
 
     private static void act(RangePapers x, int i) {
@@ -564,9 +594,32 @@ public final class PromiseTest {
         due.is("goes(31, 0): of like ones the least", x.goes(31, 0), 4);
         due.is("goes(32, 0)", x.goes(32, 0), UNKNOWN);
         due.is("goes(-1, 0)", x.goes(-1, 0), UNKNOWN);
+        goesByLaw3();
         due.is("goes(32, 4)", x.goes(32, 4), UNKNOWN);
         due.is("goes(0, 4)", x.goes(0, 4), BAD);
         due.is("goes(0, -1)", x.goes(0, -1), BAD);
+    }
+
+    private static void goesByLaw3() {
+        // Right: 00/3 by 1, twice; not known of: 00/1 and 16/1 by 0, 00/0 by 0.
+        RangePapers x = told("Pg910033r0031r0010r1610r0000r0031");
+        due.is("goes(0, 3): route 0", x.goes(0, 3), 0);
+        due.is("goes(0, 0): route 0", x.goes(0, 0), 0);
+        due.is("goes(0, 1): route 0", x.goes(0, 1), 0);
+        due.is("goes(8, 1): route 1", x.goes(8, 1), 1);
+        due.is("goes(8, 3): route 0 keeps it out", x.goes(8, 3), NONE);
+        due.is("goes(16, 3): route 2 is apart", x.goes(16, 3), 2);
+        x.withdraw(4);
+        due.is("goes(8, 3): route 0 alone keeps it out", x.goes(8, 3), NONE);
+        x.withdraw(0);
+        due.is("goes(8, 3): nothing right", x.goes(8, 3), 0);
+        due.is("goes(0, 3): nothing right", x.goes(0, 3), 0);
+        // A wrong one as route 0 is let in by LAW 0 alone.
+        RangePapers y = told("Pg910033r0030r0000");
+        due.is("goes(0, 0): wrong", y.goes(0, 0), 0);
+        due.is("goes(0, 1)", y.goes(0, 1), 1);
+        due.is("goes(0, 2)", y.goes(0, 2), NONE);
+        due.is("goes(0, 3)", y.goes(0, 3), 1);
     }
 
     private static void theft() {
@@ -575,6 +628,8 @@ public final class PromiseTest {
         due.is("theft(8, 0, 0): one place is taken", x.theft(8, 0, 0), NONE);
         due.is("theft(9, 0, 0)", x.theft(9, 0, 0), 4);
         due.is("theft(9, 0, 1)", x.theft(9, 0, 1), NONE);
+        RangePapers one = told("Pr0040");
+        due.is("theft(0, 0, 0): one place", one.theft(0, 0, 0), 5);
         due.is("theft(9, 2, 1)", x.theft(9, 2, 1), 4);
         due.is("theft(8, 2, 2): the wrong one is not let in", x.theft(8, 2, 2), 4);
         due.is("theft(0, 0, 0)", x.theft(0, 0, 0), 0);
@@ -650,6 +705,9 @@ public final class PromiseTest {
         due.is("revoked, then 2 does not stand", x.judge(2, 11006200), NONE);
         due.is("revoked, then 2 stands", x.judge(2, 11006201), 1);
         due.is("revoked twice, then 2 stands", x.judge(3, 110011006201L), NONE);
+        due.is("2 revoked, then 1 stands, 2 does not", x.judge(3, 120061016200L), NONE);
+        due.is("set aside twice, then grant 0 counts", x.judge(3, 310031007001L), NONE);
+        due.is("set aside, then grant 0 does not", x.judge(2, 31007000), NONE);
         due.is("four nights: 1 stands", x.judge(4, 2000200020006101L), NONE);
         due.is("set aside, then route 0 is right", x.judge(2, 31004002), 1);
         due.is("set aside, then route 0 is not known of", x.judge(2, 31004001), NONE);
@@ -790,6 +848,12 @@ public final class PromiseTest {
         RangePapers deep = told("Pp00009p10009p20009p30009p40009g500000r0000");
         chanceIs(deep, 1, 3, 16807, 100000);
         chanceIs(deep, 1, 5, 1, 32);
+        RangePapers one = told("Pp00009g100000r0000");
+        for (int x10 = 0; x10 <= 10; x10++) {
+            int[] above = {1, 9, 4, 7, 3, 1, 2, 3, 1, 1, 0};
+            int[] below = {1, 10, 5, 10, 5, 2, 5, 10, 5, 10, 1};
+            chanceIs(one, 1, x10, above[x10], below[x10]);
+        }
     }
 
     private static void chanceIs(RangePapers x, int v, int tenths, int above, int below) {
@@ -820,7 +884,7 @@ public final class PromiseTest {
         due.is("seed(0): nothing changed", x.seed(0), 0);
         x.allow(9, 3, 0, 0, 0);
         x.allow(9, 4, 0, 1, 4);
-        // Ranges worked out by hand of the numbers that the document's rule gives from THE SEED on.
+        // The states of the RANGES that the document's rule gives from THE SEED on.
         long seed = 12345;
         x.seed(seed);
         int sum = 0;
@@ -833,6 +897,19 @@ public final class PromiseTest {
         due.is("drawn(40)", x.drawn(40), sum);
         due.is("seed(0)", x.seed(0), seed);
         due.is("about(10): no act", x.about(10), 2);
+        drawnOneByOne();
+    }
+
+    private static void drawnOneByOne() {
+        RangePapers x = told("Pg901612g910822g920012g932422g902423g911623g920823g930023");
+        long seed = -5;
+        x.seed(seed);
+        for (int i = 0; i < 100; i++) {
+            seed = seed * 6364136223846793005L + 1442695040888963407L;
+            int v = (int) (seed >>> 33);
+            int size = 32 >> v % 6;
+            due.is("drawn(1)", x.drawn(1), x.state(v / 6 % 32 / size * size, v % 6, v / 192 % 6));
+        }
     }
 
     private static void keep() {
