@@ -644,10 +644,10 @@ public final class RangePapers {
         void readPaper() {
             int parent = readFigure(0, papers.count - 1);
             int start = readStart();
-            int size = readLength(start);
+            int rangeLength = readLength(start);
             int lasts = readFigure(0, LAST_DAY);
             if (firstFault == NONE) {
-                papers.addRange(start, size, parent, lasts, 0);
+                papers.addRange(start, rangeLength, parent, lasts, 0);
             }
         }
 
@@ -655,19 +655,19 @@ public final class RangePapers {
             int holder = readHolder();
             int origin = readFigure(0, ORIGIN_COUNT - 1);
             int start = readStart();
-            int size = readLength(start);
-            int most = readFigure(size, LONGEST);
+            int rangeLength = readLength(start);
+            int most = readFigure(rangeLength, LONGEST);
             if (firstFault == NONE) {
-                grants.addRange(start, size, origin, holder, most);
+                grants.addRange(start, rangeLength, origin, holder, most);
             }
         }
 
         void readRoute() {
             int start = readStart();
-            int size = readLength(start);
+            int rangeLength = readLength(start);
             int origin = readFigure(0, ORIGIN_COUNT - 1);
             if (firstFault == NONE) {
-                routes.addRange(start, size, origin, 0, 0);
+                routes.addRange(start, rangeLength, origin, 0, 0);
             }
         }
 
