@@ -1,4 +1,3 @@
-import java.lang.reflect.Method;
 import java.util.ArrayList;
 import java.util.List;
 import java.util.Random;
@@ -232,44 +231,13 @@ public final class OracleTest {
             return;
         }
         left--;
-        long got = answer(x, name, a);
-        long want = answer(oracle, name, a);
-        StringBuilder line = new StringBuilder(name).append('(');
-        for (int i = 0; i < a.length; i++) {
-            line.append(i == 0 ? "" : ", ").append(a[i]);
-        }
-        told.add(line.append(") ").append(got).toString());
+        Call call = new Call(name, a);
+        long got = call.on(x);
+        long want = call.on(oracle);
+        told.add(call + " " + got);
         if (got != want) {
             told.add("due is " + want);
             wrong = true;
         }
-    }
-
-    /** The call by its name, so that both are asked in one way. */
-    private static long answer(Object asked, String name, long[] a) {
-        for (Method method : asked.getClass().getDeclaredMethods()) {
-            if (method.getName().equals(name) && method.getParameterCount() == a.length) {
-                try {
-                    return ((Number) method.invoke(asked, boxed(method.getParameterTypes(), a))).longValue();
-                } catch (ReflectiveOperationException e) {
-                    throw new IllegalStateException(name, e);
-                }
-            }
-        }
-        throw new IllegalStateException(name);
-    }
-
-    private static Object[] boxed(Class<?>[] types, long[] a) {
-        Object[] all = new Object[a.length];
-        for (int i = 0; i < a.length; i++) {
-            if (types[i] == boolean.class) {
-                all[i] = a[i] == 1;
-            } else if (types[i] == long.class) {
-                all[i] = a[i];
-            } else {
-                all[i] = (int) a[i];
-            }
-        }
-        return all;
     }
 }

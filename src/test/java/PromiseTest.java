@@ -470,17 +470,15 @@ public final class PromiseTest {
 
     private static void undo() {
         due.begin("17 undo");
-        RangePapers x = told(TREE);
-        String[] was = new String[8];
-        for (int i = 0; i < 7; i++) {
-            was[i] = look(x);
-            act(x, i);
-        }
-        due.is("about(10)", x.about(10), 7);
         for (int i = 6; i >= 0; i--) {
-            due.is("undo()", x.undo(), i);
-            due.is("all is as it was ahead of act " + i, look(x).equals(was[i]) ? 1 : 0, 1);
+            RangePapers undone = acted(7);
+            due.is("about(10)", undone.about(10), 7);
+            for (int left = 6; left >= i; left--) {
+                due.is("undo()", undone.undo(), left);
+            }
+            due.is("all is as it was ahead of act " + i, look(undone).equals(look(acted(i))) ? 1 : 0, 1);
         }
+        RangePapers x = told(TREE);
         due.is("undo()", x.undo(), LATE);
         x.see(0, 0, 0, 0);
         x.seed(5);
@@ -524,6 +522,15 @@ public final class PromiseTest {
         } else {
             x.setAside(i % 3);
         }
+    }
+
+    /** As many of the acts as are told; a new object each time, as one is good for 512 calls. */
+    private static RangePapers acted(int many) {
+        RangePapers x = told(TREE);
+        for (int i = 0; i < many; i++) {
+            act(x, i);
+        }
+        return x;
     }
 
     private static void act(RangePapers x, int i) {
